@@ -12,8 +12,22 @@ public final class EveningsTest {
     lasts();
     again();
     mind();
+    farLasts();
+    farAgain();
+    farMind();
     stops();
     Due.end("EveningsTest");
+  }
+
+  private static WedApart town(int[] kinds, int[] opinions, int[] firsts, int[] seconds) {
+    WedApart x = new WedApart();
+    for (int i = 0; i < kinds.length; i++) x.person(kinds[i], opinions[i]);
+    for (int i = 0; i < firsts.length; i++) x.talk(firsts[i], seconds[i]);
+    return x;
+  }
+
+  private static void evenings(WedApart x, int many) {
+    for (int i = 0; i < many; i++) x.evening();
   }
 
   private static WedApart two(int kind, int opinions, int other, int others) {
@@ -184,6 +198,60 @@ public final class EveningsTest {
     Due.is("21 no such person", x.lasts(0, 2), -2);
     Due.is("21 person -1", x.lasts(-1, 0), -2);
     Due.is("21 nothing changes", x.count(2), 0);
+  }
+
+  /** A couple parted behind 201 EVENINGS, then behind 200: told by letting them go by. */
+  private static void farLasts() {
+    int[] firsts = {1, 4, 0, 4, 0, 3, 3, 1};
+    int[] seconds = {4, 3, 4, 1, 2, 2, 0, 3};
+    int[] opinions = {314, 879, 494, 848, 48};
+    WedApart x = town(new int[] {CONTRARY, PLAIN, CONTRARY, CONTRARY, CONTRARY}, opinions,
+        firsts, seconds);
+    x.licence(2, 10);
+    evenings(x, 7);
+    for (int i = 0; i < opinions.length; i++) x.thinks(i, opinions[i]);
+    Due.is("21 behind 201: none", x.lasts(1, 3), -1);
+    for (int left = 200; left > 0; left--) {
+      x.evening();
+      if (left > 197) Due.is("21 behind " + left, x.lasts(1, 3), left);
+      if ((x.lawful(1) & 8) == 0) Due.is("21 not lawful, and to go by", left, 0);
+    }
+    x.evening();
+    Due.is("21 lawful no more", x.lawful(1) & 8, 0);
+    Due.is("21 parted now", x.lasts(1, 3), 0);
+  }
+
+  private static void farAgain() {
+    WedApart x = town(new int[] {PROUD, CONTRARY, CONTRARY, PROUD},
+        new int[] {399, 264, 503, 923}, new int[] {1, 3, 1, 2, 1, 3}, new int[] {0, 2, 0, 0, 2, 2});
+    Due.is("22 behind 200", x.again(0), 200);
+    Due.is("22 as behind 152", x.again(1), 152);
+    for (int i = 0; i < 4; i++) Due.is("22 person " + i, x.behind(i, 200), x.behind(i, 152));
+    WedApart y = town(new int[] {CONTRARY, CONTRARY, CONTRARY}, new int[] {891, 238, 701},
+        new int[] {2, 2, 1, 1, 1, 1, 0, 2}, new int[] {0, 1, 2, 2, 0, 2, 1, 0});
+    Due.is("22 behind 200, too", y.again(0), 200);
+    Due.is("22 as behind 40", y.again(1), 40);
+  }
+
+  /** Of one mind behind 201 EVENINGS, then behind 200: told by letting them go by. */
+  private static void farMind() {
+    int[] firsts = {0, 2, 1, 0, 3, 3, 2, 2};
+    int[] seconds = {3, 1, 3, 1, 2, 1, 0, 3};
+    int[] opinions = {283, 855, 703, 794};
+    WedApart x = town(new int[] {CONTRARY, CONTRARY, CONTRARY, PROUD}, opinions, firsts, seconds);
+    evenings(x, 7);
+    for (int i = 0; i < opinions.length; i++) x.thinks(i, opinions[i]);
+    Due.is("23 behind 201: none", x.mind(), -1);
+    Due.is("24 none anyway", x.stops(), -1);
+    x.licence(0, 0);
+    for (int left = 200; left > 0; left--) {
+      x.evening();
+      if (left > 197) Due.is("23 behind " + left, x.mind(), left);
+      if (x.lawful(0) == 14) Due.is("23 of one mind, and to go by", left, 0);
+    }
+    x.evening();
+    Due.is("23 of one mind", x.lawful(0), 14);
+    Due.is("23 one mind now", x.mind(), 0);
   }
 
   private static void again() {

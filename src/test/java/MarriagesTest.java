@@ -135,6 +135,10 @@ public final class MarriagesTest {
     Due.is("27 none", x.feigned(0, 1), -1);
     x.licence(12, 12);
     Due.is("27 as far as can be", x.feigned(0, 1), 0);
+    x.weighty(0);
+    x.thinks(1, 0);
+    x.licence(10, 10);
+    Due.is("27 all of them", x.feigned(0, 1), 1023);
     Due.is("27 alike", x.feigned(1, 1), -2);
     Due.is("27 no such person", x.feigned(1, 3), -2);
     Due.is("27 person -1", x.feigned(-1, 1), -2);

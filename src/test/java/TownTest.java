@@ -193,6 +193,7 @@ public final class TownTest {
     Due.is("11 no weighty", x.weighty(0), 0);
     Due.is("11 licence as at first", x.licence(2, 4), 204);
     anew();
+    anewAndAnew();
     Due.is("11 two figures", answer("licence 00 20;"), 1);
     Due.is("11 weighty none", answer("weighty x;"), 1);
     Due.is("11 all matters", answer("weighty abcdefghij;"), 1);
@@ -221,6 +222,27 @@ public final class TownTest {
     Due.is("11 couple of the image", x.count(4), 1);
   }
 
+  /** One reading behind the other: nothing of what was ahead of them is left. */
+  private static void anewAndAnew() {
+    WedApart fresh = new WedApart();
+    type(fresh, "person 0 a;person 5 b;talk 1 0;weighty c;licence 1 9;");
+    fresh.read();
+    WedApart x = new WedApart();
+    type(x, "person 0 a;person 5 b;talk 1 0;weighty c;licence 1 9;");
+    for (int i = 0; i < 4; i++) {
+      Due.is("11 read by turns", x.read(), 5);
+      Due.is("11 the town by turns", x.digest(), fresh.digest());
+      x.person(2, 1023);
+      x.weighty(1);
+      x.licence(0, 1);
+      x.seen(1, 512);
+      x.couple(4, true);
+      x.talk(2, 1);
+      x.evening();
+      x.meet(0, 2);
+    }
+  }
+
   private static void readFaults() {
     String[] texts = {
       "person 0 ba;", "person 0 aa;", "person 0 k;", "person 0 xa;", "person 0 ax;", "person 0 xx;",
@@ -229,7 +251,8 @@ public final class TownTest {
       "person 0 a;;", "person 0 a; talk", "licence 1;", "licence 1 2", "licence 1 2 3;", "licence 123;",
       "licence 12;", "licence 1 a;", "licence a 1;", "talk 0 1 a;", "weighty;", "weighty 1;",
       "weighty a b;", "weightya;", "person 0 a\n;", "\tperson 0 a;", "talk 0 1;-", "person -1 a;",
-      "talk 1 100;", "licence 1 2x;", "person 0 a 1;", "x;", "person 0 weighty;", "personx 0;"};
+      "talk 1 100;", "licence 1 2x;", "person 0 a 1;", "x;", "person 0 weighty;", "personx 0;",
+      "weighty az;"};
     int[] places = {
       9, 9, 9, 9, 9, 9,
       8, 7, 6, 0, 0, 0, 0, 0, 0,
@@ -237,7 +260,8 @@ public final class TownTest {
       11, 16, 9, 11, 12, 8,
       10, 10, 8, 9, 7, 8,
       10, 0, 10, 0, 9, 7,
-      7, 11, 11, 0, 9, 0};
+      7, 11, 11, 0, 9, 0,
+      8};
     for (int i = 0; i < texts.length; i++) {
       Due.is("11 read of \"" + texts[i] + "\"", answer(texts[i]), -10 - places[i]);
     }
