@@ -193,7 +193,6 @@ public final class WedApart {
 
   public int dinners(int a, int b, int m, int i) {
     if (!town.hasTwo(a, b) || m < 1 || m > MOST_DINNERS || i < NONE) return refuse(BAD_TEN);
-    if (i >= m) return NOT_SO_MANY;
     if (i == NONE) return Dinners.rows(town, town.minds, a, b, m);
     return Dinners.ofFirstRow(town, a, b, m, i);
   }
@@ -787,16 +786,16 @@ public final class WedApart {
       return many;
     }
 
+    /** NONE if there is no row, whichever of its DINNERS is asked for. */
     static int ofFirstRow(Town town, int a, int b, int evenings, int i) {
       long minds = town.minds;
-      int dinner = NONE;
-      for (int e = 0; e <= i; e++) {
+      for (int e = 0; e < evenings; e++) {
         long talked = town.behindTalk(minds, a, b);
-        dinner = first(town, talked, a, b, evenings - e - 1);
-        if (dinner == NONE) return NONE;
+        int dinner = first(town, talked, a, b, evenings - e - 1);
+        if (dinner == NONE || e == i) return dinner;
         minds = behindDinner(town, talked, a, b, dinner);
       }
-      return dinner;
+      return NOT_SO_MANY;
     }
 
     /** The least DINNER by which they are LAWFUL and the EVENINGS that are left can be filled. */

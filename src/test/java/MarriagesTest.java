@@ -77,11 +77,14 @@ public final class MarriagesTest {
     Due.is("26 two alone: one row", x.dinners(0, 1, 3, -1), 1);
     Due.is("26 nobody comes", x.dinners(0, 1, 3, 2), 0);
     Due.is("26 four evenings: one apart", x.dinners(0, 1, 4, -1), 0);
+    Due.is("26 not so many", x.dinners(0, 1, 3, 3), -5);
+    Due.is("26 far from so many", x.dinners(0, 1, 3, 2147483647), -5);
     Due.is("26 no row", x.dinners(0, 1, 4, 0), -1);
-    Due.is("26 not so many", x.dinners(0, 1, 4, 4), -5);
-    Due.is("26 not so many, ahead of no row", x.dinners(0, 1, 4, 2147483647), -5);
+    Due.is("26 no row: not its last one", x.dinners(0, 1, 4, 3), -1);
+    Due.is("26 no row, ahead of not so many", x.dinners(0, 1, 4, 4), -1);
+    Due.is("26 no row, ahead of far from so many", x.dinners(0, 1, 4, 2147483647), -1);
     Due.is("26 nothing changes", x.opinions(0) + x.count(2) + x.count(3), 0);
-    Due.is("26 status, of -5 too", x.status(0), 0);
+    Due.is("26 status: of -5 and NONE, none", x.status(0), 0);
     Due.is("26 m 0", x.dinners(0, 1, 0, 0), -10);
     Due.is("26 m 5", x.dinners(0, 1, 5, 0), -10);
     Due.is("26 i -2", x.dinners(0, 1, 1, -2), -10);

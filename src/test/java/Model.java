@@ -510,10 +510,11 @@ public final class Model {
 
   public int dinners(int a, int b, int m, int i) {
     if (!now.are(a, b) || m < 1 || m > 4 || i < -1) return badTen();
-    if (i >= m) return -5;
     List<int[]> rows = new ArrayList<>();
     rowsOfDinners(now, a, b, new int[m], 0, rows);
-    return i < 0 ? rows.size() : rows.isEmpty() ? -1 : rows.get(0)[i];
+    if (i < 0) return rows.size();
+    if (rows.isEmpty()) return -1;
+    return i < m ? rows.get(0)[i] : -5;
   }
 
   private static void rowsOfDinners(World w, int a, int b, int[] row, int e, List<int[]> rows) {
