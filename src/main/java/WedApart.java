@@ -412,24 +412,16 @@ public final class WedApart {
 
     static int heard(int kind, int own, int other, boolean otherIsLesser, int matter,
         boolean isWeighty) {
+      int plain = otherIsLesser ? taken(own, other, matter) : own;
+      int proud = isWeighty ? own : plain;
       switch (kind) {
-        case PLAIN: return plain(own, other, otherIsLesser, matter);
-        case PROUD: return proud(own, other, otherIsLesser, matter, isWeighty);
+        case PLAIN: return plain;
+        case PROUD: return proud;
         case MEEK: return taken(own, other, matter);
-        case CONTRARY:
-          return proud(own, other, otherIsLesser, matter, isWeighty) ^ matterBehind(matter);
+        case CONTRARY: return proud ^ matterBehind(matter);
         case FICKLE: return taken(own, other, matter | matterBehind(matter));
         default: return own;
       }
-    }
-
-    private static int plain(int own, int other, boolean otherIsLesser, int matter) {
-      return otherIsLesser ? taken(own, other, matter) : own;
-    }
-
-    private static int proud(int own, int other, boolean otherIsLesser, int matter,
-        boolean isWeighty) {
-      return isWeighty ? own : plain(own, other, otherIsLesser, matter);
     }
 
     private static int taken(int own, int other, int matters) {
