@@ -283,7 +283,11 @@ public final class TermsBoundsTest {
             + "wed(0, -1)=2 wed(0, 0)=2 wed(0, 1)=3");
     Runs.hold("MARRIAGES: of like ones the first row: single ahead of the least other one",
         "3*person(0, 0) licence(0, 0) wed(0, -1)=1 wed(0, 0)=-1 wed(0, 1)=2 wed(0, 2)=1",
-        "5*person(0, 0) licence(0, 0) wed(0, -1)=2 wed(0, 0)=-1 wed(0, 1)=2 wed(0, 4)=3");
+        "5*person(0, 0) licence(0, 0) wed(0, -1)=2 wed(0, 0)=-1 wed(0, 1)=2 wed(0, 4)=3",
+        "person(0, 0) person(0, 1) person(0, 3) person(0, 7) person(0, 15) person(0, 31) wed(0, -1)=3 "
+            + "wed(0, 0)=2 wed(0, 1)=4 wed(0, 2)=0 wed(0, 3)=5 wed(0, 4)=1 wed(0, 5)=3",
+        "person(0, 2) person(0, 17) person(0, 1) person(0, 10) person(0, 21) person(0, 26) licence(4, 5) "
+            + "wed(0, -1)=3 wed(0, 0)=4 wed(0, 1)=3 wed(0, 2)=5 wed(0, 3)=1 wed(0, 4)=0 wed(0, 5)=2");
     Runs.hold("MARRIAGES; NONE: single",
         "person(0, 0) person(0, 0) wed(0, -1)=0 wed(0, 0)=-1 wed(0, 1)=-1");
   }
@@ -333,6 +337,16 @@ public final class TermsBoundsTest {
   }
 
   private static void noDinners() {
+    Runs.hold("DINNERS: a first one that leaves no row is none of the first row",
+        "person(1, 4) person(5, 29) person(1, 25) dinners(0, 1, 1, 0)=0 dinners(0, 1, 2, 0)=3 "
+            + "dinners(0, 1, 3, 0)=3 dinners(0, 1, 4, 0)=9 dinners(0, 1, 4, 1)=0 dinners(0, 1, 4, 2)=9 "
+            + "dinners(0, 1, 4, 3)=9 dinners(0, 1, 1, -1)=3 dinners(0, 1, 2, -1)=4 dinners(0, 1, 4, -1)=1",
+        "person(3, 16) person(2, 11) person(2, 29) dinners(0, 1, 1, 0)=0 dinners(0, 1, 4, 0)=9 "
+            + "dinners(0, 1, 4, 1)=3 dinners(0, 1, 4, 2)=0 dinners(0, 1, 4, 3)=0 dinners(0, 1, 4, -1)=2");
+    Runs.hold("DINNERS: each EVENING goes on from the one ahead of it",
+        // three, two, one APART by the TALKS with one another; 2 gives one back on the second
+        "person(4, 0) person(2, 7) person(4, 7) dinners(0, 1, 2, -1)=5 dinners(0, 1, 2, 0)=0 "
+            + "dinners(0, 1, 2, 1)=9 dinners(0, 1, 1, 0)=0");
     String parted = "person(2, 0) person(4, 3) ";
     Runs.hold("DINNERS: LAWFUL behind each of them: no row",
         parted + "dinners(0, 1, 1, -1)=0 dinners(0, 1, 1, 0)=-1 dinners(0, 1, 4, 3)=-1",
@@ -381,6 +395,11 @@ public final class TermsBoundsTest {
         "person(2, 0) person(4, 0) person(4, 3) licence(1, 1) seats(-1)=2 seats(1)=1 seats(2)=2",
         // two: they TALK as places 0 and 1, then as the last and 0
         "person(2, 0) person(4, 15) seats(-1)=1 thinks(1, 7) seats(-1)=0");
+    Runs.hold("SEATS: nobody sits twice, each TALK behind the other",
+        "person(1, 19) person(5, 19) person(0, 23) person(4, 2) person(1, 4) licence(1, 2) seats(-1)=9 "
+            + "seats(0)=0 seats(1)=2 seats(2)=4 seats(3)=1 seats(4)=3 seats(5)=-5",
+        "person(1, 16) person(1, 4) person(2, 30) person(1, 25) person(0, 22) licence(1, 2) seats(-1)=9 "
+            + "seats(1)=4 seats(2)=2 seats(3)=1 seats(4)=3");
     Runs.hold("SEATS: of like ones the first",
         "4*person(4, 5) seats(1)=1 seats(2)=2 seats(3)=3",
         "person(4, 1) person(2, 0) person(4, 2) person(4, 2) licence(0, 0) seats(-1)=3 seats(1)=2 "
@@ -393,6 +412,7 @@ public final class TermsBoundsTest {
         "person(0, 0) person(0, 3) person(0, 1) three(0)=0 three(1)=-1");
     Runs.hold("THREE: how many, the first (bits, the least number)",
         "3*person(0, 0) licence(0, 0) three(0)=1 three(1)=7",
+        "person(0, 0) person(0, 3) person(0, 7) person(0, 12) three(0)=2 three(1)=11",
         "6*person(0, 0) licence(0, 0) three(0)=20 three(1)=7",
         "person(0, 1) person(0, 2) person(0, 4) 3*person(0, 8) licence(0, 0) three(0)=1 three(1)=56",
         "person(0, 1) person(0, 1) person(0, 2) person(0, 2) person(0, 2) person(0, 1) licence(0, 0) "
@@ -447,6 +467,7 @@ public final class TermsBoundsTest {
         // from SEED 0 the fourth X is the first that is odd: of bits 3, or 9 where they differ
         // on 0, 4, 8, 9 alone
         "person(0, 0) person(0, 15) person(0, 785) born(0, 1, 0)=8 born(0, 2, 0)=512",
+        "person(0, 1) person(0, 31) born(0, 1, 0)=17 born(1, 0, 0)=15",
         "person(0, 5) person(3, 5) born(0, 1, 0)=5 born(0, 1, 999999)=5");
   }
 
@@ -480,7 +501,8 @@ public final class TermsBoundsTest {
     Runs.hold("IMAGES keep all but them, THE TEXT, THE FRACTION and STATUS",
         "person(2, 0) person(4, 7) talk(0, 1) weighty(6) licence(1, 3) seen(0, 9) couple(4, false) "
             + "evening() digest()=$d image(1) from(1) digest()=$d meet(0, 1) become(0, 0) clean() "
-            + "weighty(0) licence(0, 0) seen(0, 1) burn() person(0, 0) from(1)=1 digest()=$d",
+            + "talk(1, 0) weighty(0) licence(0, 0) seen(0, 1) burn() couple(9, true) person(0, 0) "
+            + "from(1)=1 digest()=$d",
         "image(0) person(0, 1) image(1) from(0)=1 count(0)=0 from(1)=1 count(0)=1",
         "image(0) 'talk' from(0)=1 count(5)=4",
         "person(0, 0) person(0, 1) image(0) child(0, 1, 0, 1) from(0)=1 part(0)=1 part(1)=2",
@@ -489,6 +511,9 @@ public final class TermsBoundsTest {
         "12*evening() image(0) 12*undo() count(3)=0 from(0)=1 count(3)=12 12*undo()=1 undo()=-3 "
             + "count(2)=0 from(0)=1 count(3)=12 count(2)=12",
         "image(0) evening() from(0)=1 count(3)=0 undo()=-3",
+        "person(2, 0) person(4, 7) 2*evening() meet(0, 1) image(0) 3*undo()=1 3*meet(0, 1) from(0)=1 "
+            + "opinions(0)=1 undo()=1 opinions(0)=0 count(2)=2 undo()=1 count(2)=1 opinions(0)=0 undo()=1 "
+            + "count(2)=0 undo()=-3",
         "evening() image(0) person(0, 0) from(0)=1 undo()=1 count(0)=0 count(2)=0");
   }
 

@@ -79,6 +79,7 @@ public final class TextBoundsTest {
     fault("k is no MATTER", "person 0 k;", 9);
     fault("z is no MATTER", "weighty z;", 8);
     fault("k behind j", "person 0 jk;", 9);
+    fault("z behind a", "weighty az;", 8);
     fault("rising", "person 0 ba;", 9);
     fault("rising: not alike", "person 0 aa;", 9);
     fault("rising at its end", "person 0 abcdefghijj;", 9);
@@ -176,6 +177,11 @@ public final class TextBoundsTest {
             + "3*evening() 'person 2 ab;' read()=1 count(0)=1 count(1)=0 count(2)=0 count(3)=0 count(4)=0 "
             + "count(5)=12 opinions(0)=3 seen(0, 0)=3 become(0, 0)=2 weighty(0)=0 licence(2, 4)=204 "
             + "undo()=-3");
+    String again = "digest()=$d swayed(0)=1 lasts(0, 1)=0 6*person(3, 1023) talk(4, 5) talk(1, 2) weighty(7) "
+        + "licence(5, 6) seen(0, 1) couple(7, true) 2*evening() meet(0, 1) read()=2 ";
+    Runs.hold("11 told anew, one reading behind the other",
+        "'person 0 a;person 4 a;' read()=2 " + again.repeat(4) + "digest()=$d swayed(0)=1 undo()=-3",
+        "evening() 'weighty a;' read()=1 undo()=-3 evening() read()=1 undo()=-3 read()=1 undo()=-3");
     Runs.hold("11 in their order",
         "'weighty a;weighty b;licence 1 1;licence 3 9;person 0 a;person 1 b;' read()=6 weighty(0)=2 "
             + "licence(2, 4)=309 opinions(0)=1 opinions(1)=2",
@@ -204,6 +210,8 @@ public final class TextBoundsTest {
     }
     Runs.hold("11 told by a text that is right, behind one that is refused",
         "'person 0 a;weighty abc;licence 0 0;person 6 a;' read()=-1003 'person 1 b;' read()=1 count(0)=1 "
-            + "opinions(0)=2 weighty(0)=0 licence(2, 4)=204");
+            + "opinions(0)=2 weighty(0)=0 licence(2, 4)=204",
+        "'person 1 b;' read()=1 digest()=$d 'person6a;' digest()=$e read()=-1000 digest()=$e 'weighty '"
+            + " digest()=$f read()=-18 digest()=$f 'person 1 b;' digest()=$d read()=1 digest()=$d");
   }
 }
