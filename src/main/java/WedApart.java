@@ -933,7 +933,7 @@ public final class WedApart {
     /** Goes on to the next TOKEN; behind the last one it starts at THE TEXT's length. */
     private void step() {
       start = end;
-      while (start < length && bytes[start] == ' ') start++;
+      while (start < length && at(start) == ' ') start++;
       end = start + 1;
       if (isLetter(start)) {
         while (end < length && isLetter(end)) end++;
